@@ -10,9 +10,12 @@ final class OutsideTest {
         cardMayNotBeWritten();
         cardStaysTooLong();
         entryByClassAndTime();
+        entryByTheRightsClass();
         cardGoesBadOnTheWay();
         latchAndAlarm();
         badRows();
+        issuerZeroIsNotKnown();
+        holderEndsBeforeFrom();
         outsideGoesFirst();
         CHECK.end();
     }
@@ -219,6 +222,25 @@ final class OutsideTest {
         }
     }
 
+    private static void entryByTheRightsClass() {
+        for (int level = 2; level <= 4; level++) {
+            Hand h = enrolled();
+            h.takeRole(2, 3);
+            h.press(2);
+            h.disk(Hand.settings(15, 10, 20, 10, 200, 3, 12, 0, 999));
+            h.look("settings", 59);
+            h.soundCard(1, 0, level);
+            h.house.writable(1, false);
+            h.house.put(0, 1);
+            h.house.finger(5);
+            for (int i = 0; i < 5; i++) {
+                h.house.poll();
+            }
+            h.outside("waits for entry without a pass", 5, 6);
+            h.look("right's class " + level, level >= 3 ? 12 : 13);
+        }
+    }
+
     private static void cardGoesBadOnTheWay() {
         Hand h = enrolled();
         h.soundCard(1, 0, 0, 30);
@@ -305,6 +327,7 @@ final class OutsideTest {
         tries("from without sign", 0, Hand.head(Hand.WHO, Hand.OTHER, 51, 0, 0, 0x80000000L, 0xffffffffL).add(7, 4).bytes(), 5);
         tries("right by other issuer", 1, right(Hand.OTHER, 51, 3, 5), 4);
         tries("right of another issuer's holder", 1, right(Hand.OWN, 51, 3, 5), 5);
+        tries("right of a holder's issuer with another high byte", 1, right(Hand.OTHER ^ 0x100, 51, 3, 5), 5);
         tries("right of another holder", 1, right(Hand.OTHER, 52, 3, 5), 5);
         tries("role 4", 1, right(Hand.OTHER, 51, 4, 5), 5);
         tries("class 6", 1, right(Hand.OTHER, 51, 3, 6), 5);
@@ -347,6 +370,30 @@ final class OutsideTest {
             h.look("card", 2);
             h.look("pass with byte " + i + " changed", i < 0 ? 3 : 4);
         }
+    }
+
+    /** Places for keys that the enrolment did not fill stand for no issuer. */
+    private static void issuerZeroIsNotKnown() {
+        Hand h = enrolled();
+        h.soundCard(1, 0, 0);
+        byte[] right = Hand.head(Hand.RIGHT, 0, 9, Hand.OTHER, 51, 0, 9).add(0, 1).add(0, 1).bytes();
+        h.sealedRow(1, 1, right, new int[4]);
+        h.house.put(0, 1);
+        h.look("card", 2);
+        h.look("issuer 0", 5);
+    }
+
+    private static void holderEndsBeforeFrom() {
+        Hand h = enrolled();
+        for (int i = 0; i < 200; i++) {
+            h.house.tick(100000);
+        }
+        h.soundCard(1, 0, 0, 0xffffffffL);
+        byte[] right = Hand.head(Hand.RIGHT, Hand.OTHER, 9, Hand.OTHER, 51, 20000000, 20000000).add(0, 1).add(0, 1).bytes();
+        h.sealedRow(1, 1, right, Hand.OTHER_KEY);
+        h.house.put(0, 1);
+        h.look("card", 2);
+        h.look("from and to just now", 4);
     }
 
     private static byte[] passRow(Hand h, int changed) {
