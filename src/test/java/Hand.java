@@ -20,6 +20,12 @@ final class Hand {
         this.check = check;
     }
 
+    static Hand enrolled(Check check) {
+        Hand hand = new Hand(check);
+        hand.enrol();
+        return hand;
+    }
+
     /** A row of bytes that is written number by number, each with its highest byte first. */
     static final class Row {
         private final ByteArrayOutputStream bytes = new ByteArrayOutputStream();
@@ -149,7 +155,7 @@ final class Hand {
         check.due(what + ": how bad", house.record(i, 9), bad);
         check.due(what + ": card", house.record(i, 10), card);
         check.due(what + ": zero", house.record(i, 11), 0);
-        check.due(what + ": serial", number(i, 12, 4), serial);
+        check.due(what + ": serial", number(i, 12, 4), serial & 0xffffffffL);
         check.due(what + ": number", number(i, 0, 4), house.show(10) - 1);
     }
 
