@@ -150,13 +150,18 @@ final class Hand {
 
     /** The newest record's badness, card and serial. */
     void lastTells(String what, int bad, int card, int serial) {
-        int i = house.show(9) - 1;
+        tells(what, 0, bad, card, serial);
+    }
+
+    /** The same of the record so many places before the newest one; all must be of this time. */
+    void tells(String what, int before, int bad, int card, int serial) {
+        int i = house.show(9) - 1 - before;
         check.due(what + ": time", number(i, 4, 4), house.show(8));
         check.due(what + ": how bad", house.record(i, 9), bad);
         check.due(what + ": card", house.record(i, 10), card);
         check.due(what + ": zero", house.record(i, 11), 0);
         check.due(what + ": serial", number(i, 12, 4), serial & 0xffffffffL);
-        check.due(what + ": number", number(i, 0, 4), house.show(10) - 1);
+        check.due(what + ": number", number(i, 0, 4), house.show(10) - 1 - before);
     }
 
     long number(int i, int k, int width) {
@@ -169,10 +174,19 @@ final class Hand {
 
     /** A card with a pass is brought to the inner reader and gets its role. */
     void takeRole(int card, int role) {
+        takeRole(card, role, 42);
+    }
+
+    /** The same when the records are full: the card's first record makes a block go. */
+    void takeRoleOfFull(int card, int role) {
+        takeRole(card, role, 30, 42);
+    }
+
+    private void takeRole(int card, int role, int... records) {
         soundCard(card, role, 0);
         pass(card, role, 0, LATE);
         house.put(1, card);
-        look("role " + role, 42);
+        look("role " + role, records);
         inside("role " + role, 3, 2, StationHouse.NONE);
         look("role " + role, 44);
         inside("role " + role, 2, 5, role);
@@ -184,6 +198,52 @@ final class Hand {
         inside("key " + key, 5, 6, house.show(7));
     }
 
+    /** An officer with card 15 brings other settings and leaves. */
+    void change(int... values) {
+        takeRole(15, 3);
+        press(2);
+        disk(settings(values));
+        look("settings", 59);
+        house.noDisk();
+        leave();
+    }
+
+    void leave() {
+        house.put(1, StationHouse.NONE);
+        look("leaves", 47);
+        inside("leaves", 2, 1, StationHouse.NONE);
+    }
+
+    /** A sound card without a pass comes to the outer reader with its finger and on to a state of 1 to 6. */
+    void comeTo(int state, int card) {
+        int[] records = {2, 4, 6, 8, 10, 12};
+        house.put(0, card);
+        house.finger(5);
+        for (int i = 0; i < state; i++) {
+            look("on the way to " + state, records[i]);
+        }
+        check.due("on the way to " + state, house.show(5), state);
+    }
+
+    /** A card with a pass comes, and is to be removed well. */
+    void comeWithPass(int card) {
+        soundCard(card, 0, 5);
+        pass(card, 0, 5, LATE);
+        house.put(0, card);
+        look("comes with a pass", 2);
+        look("comes with a pass", 3);
+        look("comes with a pass", 12);
+        outside("comes with a pass", 6, 4);
+    }
+
+    void openLatch(int card) {
+        comeWithPass(card);
+        house.put(0, StationHouse.NONE);
+        look("latch opens", 14, 22);
+        outside("latch opens", 0, 7);
+        check.due("latch is open", house.show(0), 1);
+    }
+
     /** Fills the records by a door that opens and closes with an alarm, two records a look. */
     void fillTo(int count) {
         boolean open = true;
@@ -193,5 +253,20 @@ final class Hand {
             open = !open;
         }
         house.door(false);
+    }
+
+    /** Fills the records of an enrolled and quiet house to just so many; the door is closed. */
+    void fillJust(int count) {
+        for (int i = 0; i < 24 && house.show(9) + 4 <= count; i++) {
+            house.door(true);
+            house.poll();
+            house.door(false);
+            house.poll();
+        }
+        for (int i = 0; i < 8 && house.show(9) < count; i++) {
+            house.cutAt(0);
+            house.poll();
+        }
+        check.due("filled", house.show(9), count);
     }
 }
