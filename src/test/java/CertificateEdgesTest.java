@@ -21,6 +21,7 @@ final class CertificateEdgesTest {
         notBeforeFrom();
         notBehindTo();
         fromBehindTo();
+        eachByteOfATimeCounts();
         timesAreWithoutSign();
         serialsAreWithoutSign();
         serialZeroIsOne();
@@ -29,6 +30,7 @@ final class CertificateEdgesTest {
         passNeedsJustItsWho();
         passIsByTheHouseItself();
         fingerAloneIsNeededForItsScore();
+        rowThatChangesBetweenLooks();
         CHECK.end();
     }
 
@@ -225,6 +227,31 @@ final class CertificateEdgesTest {
         }
     }
 
+    private static void eachByteOfATimeCounts() {
+        int late = 0x01020304;
+        for (int place = 0; place < 4; place++) {
+            for (int shift = 0; shift <= 24; shift += 8) {
+                goodAtLateTime(place, late, late - (1 << shift), late, true);
+                goodAtLateTime(place, late, late + (1 << shift), -1, false);
+                goodAtLateTime(place, late, late, late + (1 << shift), true);
+                goodAtLateTime(place, late, 0, late - (1 << shift), false);
+            }
+        }
+    }
+
+    private static void goodAtLateTime(int place, int now, int from, int to, boolean good) {
+        Hand h = Hand.enrolled(CHECK);
+        for (int i = 0; i < now / 100000; i++) {
+            h.house.tick(100000);
+        }
+        h.house.tick(now % 100000);
+        for (int i = 0; i < (place < 3 ? 3 : 4); i++) {
+            boolean meant = i == place;
+            h.sealedRow(1, i, text(i, i + 1, meant ? from : now, meant ? to : now).bytes(), key(i));
+        }
+        CHECK.due(NAMES[place] + " from " + from + " to " + to, judged(h), place == 3 ? good ? 3 : 4 : good ? 4 : 5);
+    }
+
     private static void timesAreWithoutSign() {
         for (int place = 0; place < 4; place++) {
             for (long time : new long[] {0x7fffffffL, 0x80000000L, 0x80000064L, 0xffff0000L, 0xffffffffL}) {
@@ -320,6 +347,26 @@ final class CertificateEdgesTest {
         h.look("gone", 1);
         h.look("the same card inside", 42);
         h.look("gets no role by it", 45);
+    }
+
+    /** What was found of a row does not hold for the one that comes in its place. */
+    private static void rowThatChangesBetweenLooks() {
+        for (int place = 0; place < 4; place++) {
+            Hand h = withAllFour();
+            if (place < 3) {
+                h.house.card(1, 3);
+            }
+            byte[] row = sealed(text(place), key(place));
+            for (int round = 0; round < 3; round++) {
+                boolean good = round != 1;
+                h.tape(good ? row : changed(row, row.length - 1, row[row.length - 1] ^ 1));
+                h.house.card(1, place);
+                int due = place == 3 ? good ? 3 : 4 : good ? 4 : 5;
+                CHECK.due(NAMES[place] + " in round " + round, judged(h), due);
+                h.house.put(0, -1);
+                h.look("gone", due == 5 ? 16 : 1);
+            }
+        }
     }
 
     private static void fingerAloneIsNeededForItsScore() {

@@ -24,6 +24,7 @@ final class CrashEdgesTest {
         thirtyOfAStartIsNotCounted();
         thirtyCountsInALook();
         cutBetweenThirtyAndItsRecord();
+        cutBetweenThirtyAndAnActsRecord();
         enrolmentWithItsRecord();
         passWithItsRecord();
         passThatIsNotWritten();
@@ -298,6 +299,42 @@ final class CrashEdgesTest {
         CHECK.due("records' alarm", h.house.show(2), 1);
         hasStarted("behind 30", h, true);
         h.look("the card comes then", 2);
+    }
+
+    /** The act is not done at all, though its 30 was put. */
+    private static void cutBetweenThirtyAndAnActsRecord() {
+        Hand pass = Hand.enrolled(CHECK);
+        pass.fillJust(92);
+        pass.soundCard(1, 0, 0);
+        pass.comeTo(4, 1);
+        pass.house.cutAt(1);
+        pass.cutLook("pass", -3, 30, 70);
+        CHECK.due("no pass", pass.house.size(1, 3), 0);
+        CHECK.due("next serial", pass.house.show(11), 1);
+        Hand settings = Hand.enrolled(CHECK);
+        settings.fillJust(93);
+        settings.takeRole(2, 3);
+        settings.press(2);
+        settings.disk(Hand.settings(1, 2, 3, 4, 5, 1, 6, 7, 8));
+        settings.house.cutAt(1);
+        settings.cutLook("settings", -3, 30, 70);
+        CHECK.due("unlocked", settings.house.show(14), 15);
+        Hand key = Hand.enrolled(CHECK);
+        key.fillJust(94);
+        key.takeRole(2, 1);
+        key.house.key(3);
+        key.house.cutAt(1);
+        key.cutLook("key", -3, 30, 70);
+        key.look("card", 42);
+        key.look("role", 44);
+        key.look("the key is pressed still", 53);
+        Hand enrolment = new Hand(CHECK);
+        enrolment.fillTo(96);
+        enrolment.disk(Hand.enrolment());
+        enrolment.house.cutAt(1);
+        enrolment.cutLook("enrolment", -3, 30);
+        CHECK.due("keys", enrolment.house.show(13), 0);
+        hasStarted("enrolment", enrolment, false);
     }
 
     private static void enrolmentWithItsRecord() {

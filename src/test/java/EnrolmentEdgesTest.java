@@ -16,6 +16,7 @@ final class EnrolmentEdgesTest {
         issuersMayBeAnyNumber();
         keysMayBeAlike();
         keyOfEachIssuerIsHad();
+        houseWithoutOtherKeysWorks();
         emptyAndFullDisksAreNoEnrolment();
         badEnrolmentStaysUntilTheDiskGoes();
         enrolledOnce();
@@ -145,6 +146,19 @@ final class EnrolmentEdgesTest {
             h.lastTells("who by issuer " + i, 0, 1, 8);
             h.look("pass by issuer " + i, i == 0 ? 3 : 5);
         }
+    }
+
+    private static void houseWithoutOtherKeysWorks() {
+        Hand h = tries("no others", enrolment(69, 0, 5).bytes(), 1);
+        h.house.put(0, 1);
+        h.look("outside", 2);
+        h.house.put(1, 2);
+        h.look("outside", 5);
+        h.look("inside", 42);
+        h.house.cutAt(0);
+        h.cutLook("it starts as one that is enrolled", -2, 70);
+        h.inside("it starts", 2, 1, -1);
+        h.outside("it starts", 0, 1);
     }
 
     private static void emptyAndFullDisksAreNoEnrolment() {

@@ -134,6 +134,19 @@ final class Hand {
         int first = house.show(9) - records.length;
         for (int i = 0; i < records.length; i++) {
             check.due(what + ": record " + i, house.record(first + i, 8), records[i]);
+            check.due(what + ": how bad " + records[i] + " is", house.record(first + i, 9), badness(records[i]));
+        }
+    }
+
+    private static int badness(int record) {
+        switch (record) {
+            case 24: case 30:
+                return 2;
+            case 1: case 5: case 7: case 9: case 11: case 13: case 15: case 41: case 43: case 45: case 48:
+            case 55: case 58: case 60: case 63: case 70:
+                return 1;
+            default:
+                return 0;
         }
     }
 

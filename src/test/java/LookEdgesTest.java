@@ -15,6 +15,8 @@ final class LookEdgesTest {
         alarmEndsInTheLookThatOpensTheLatch();
         latchThatOpensAgainHasNewTimes();
         oneActALook();
+        eachActOutsideIsTheOnlyOne();
+        eachActInsideIsTheOnlyOne();
         insideFirstWhileOutsideIsQuiet();
         outsideFirstWhileItIsNotQuiet();
         insideWhenOutsideCanNot();
@@ -214,6 +216,132 @@ final class LookEdgesTest {
             h.look("one of many acts", record);
         }
         h.look("no act is left");
+    }
+
+    /** A card waits at the inner reader while acts outside are done. */
+    private static Hand innerCardWaits(int state) {
+        Hand h = Hand.enrolled(CHECK);
+        h.soundCard(1, 0, 0);
+        h.comeTo(state, 1);
+        h.house.put(1, 2);
+        return h;
+    }
+
+    private static void justOutside(Hand h, int... records) {
+        for (int record : records) {
+            h.look("just the act outside", record);
+            h.inside("not inside", 2, 1, -1);
+        }
+    }
+
+    private static void removed(Hand h) {
+        h.house.put(0, -1);
+        justOutside(h, 16);
+        h.look("then inside", 42);
+    }
+
+    private static void eachActOutsideIsTheOnlyOne() {
+        for (int state = 1; state <= 5; state++) {
+            Hand h = innerCardWaits(state);
+            h.house.put(0, -1);
+            justOutside(h, 1);
+            h.look("then inside", 42);
+        }
+        Hand well = innerCardWaits(1);
+        justOutside(well, 4, 6, 8, 10, 12);
+        well.house.put(0, -1);
+        well.look("just the act outside", 14, 22);
+        well.look("then inside", 42);
+        Hand pass = innerCardWaits(1);
+        pass.pass(1, 0, 0, Hand.LATE);
+        justOutside(pass, 3, 12);
+        Hand bad = innerCardWaits(1);
+        bad.house.card(1, 0);
+        justOutside(bad, 5);
+        removed(bad);
+        Hand late = innerCardWaits(2);
+        late.house.finger(-1);
+        late.house.tick(21);
+        justOutside(late, 7);
+        removed(late);
+        Hand wrong = innerCardWaits(2);
+        wrong.house.finger(65535);
+        justOutside(wrong, 6, 9);
+        removed(wrong);
+        Hand worse = innerCardWaits(4);
+        worse.house.card(1, 0);
+        justOutside(worse, 5);
+        Hand written = innerCardWaits(4);
+        written.house.writable(1, false);
+        justOutside(written, 11);
+        written.house.card(1, 0);
+        justOutside(written, 13);
+        removed(written);
+        Hand stays = innerCardWaits(6);
+        stays.house.tick(11);
+        justOutside(stays, 15);
+        removed(stays);
+    }
+
+    /** A card waits at the outer reader while acts inside are done. */
+    private static Hand outerCardWaits(int role, int key) {
+        Hand h = Hand.enrolled(CHECK);
+        h.soundCard(2, 0, 0);
+        h.pass(2, role, 0, Hand.LATE);
+        h.house.put(1, 2);
+        h.house.put(0, 9);
+        h.house.key(key);
+        justInside(h, 42);
+        return h;
+    }
+
+    private static void justInside(Hand h, int... records) {
+        for (int record : records) {
+            h.look("just the act inside", record);
+            CHECK.due("not outside", h.house.show(5), 0);
+        }
+    }
+
+    private static void eachActInsideIsTheOnlyOne() {
+        Hand guest = outerCardWaits(0, 0);
+        justInside(guest, 45);
+        guest.house.put(1, -1);
+        justInside(guest, 46);
+        guest.look("then outside", 2);
+        Hand gone = outerCardWaits(1, 0);
+        gone.house.put(1, -1);
+        justInside(gone, 43);
+        gone.look("then outside", 2);
+        Hand guard = outerCardWaits(1, 3);
+        justInside(guard, 44, 53);
+        guard.look("just the act inside", 61, 22);
+        guard.house.key(1);
+        justInside(guard, 55);
+        guard.house.put(1, -1);
+        justInside(guard, 47);
+        guard.look("then outside", 2);
+        Hand keeper = outerCardWaits(2, 1);
+        keeper.house.disk();
+        justInside(keeper, 44, 51, 56, 57);
+        keeper.house.key(1);
+        justInside(keeper, 51, 56);
+        keeper.house.noDisk();
+        justInside(keeper, 58);
+        keeper.pass(2, 1, 0, Hand.LATE);
+        justInside(keeper, 48);
+        keeper.look("then outside", 2);
+        Hand officer = outerCardWaits(3, 2);
+        officer.disk(Hand.settings(15, 10, 20, 10, 200, 0, 12, 0, 999));
+        justInside(officer, 44, 52, 59);
+        officer.house.disk();
+        officer.house.key(2);
+        justInside(officer, 52, 60);
+        officer.house.key(4);
+        justInside(officer, 54);
+        officer.house.door(true);
+        officer.look("just the act inside", 20, 24, 63);
+        CHECK.due("not outside", officer.house.show(5), 0);
+        officer.look("then outside", 2);
     }
 
     private static void insideFirstWhileOutsideIsQuiet() {

@@ -15,6 +15,7 @@ final class OutsideEdgesTest {
         fingerOfAnotherHolderHasAScore();
         templateIsThatOfTheLook();
         passHasTheHoldersRoleAndClass();
+        passIsSealedByTheHouse();
         passTakesThePlaceOfAnyRow();
         passSerialsGoOnFromOne();
         passThatIsNotWrittenLeavesTheRow();
@@ -212,6 +213,15 @@ final class OutsideEdgesTest {
             CHECK.due("pass' byte " + i, h.house.at(card, 3, i), (i < 23 ? text[i] : seal[i - 23]) & 255);
         }
         CHECK.due("pass' end", h.house.at(card, 3, 39), -1);
+    }
+
+    private static void passIsSealedByTheHouse() {
+        Hand h = Hand.enrolled(CHECK);
+        h.soundCard(1, 0, 0);
+        byte[] right = Hand.head(Hand.RIGHT, Hand.OTHER, 2, Hand.OTHER, 51, 0, Hand.LATE).add(1, 1).add(4, 1).bytes();
+        h.sealedRow(1, 1, right, Hand.OTHER_KEY);
+        h.comeTo(5, 1);
+        passIs(h, 1, Hand.head(Hand.PASS, Hand.OWN, 1, Hand.OTHER, 51, 0, 200).add(1, 1).add(4, 1).bytes());
     }
 
     private static void passTakesThePlaceOfAnyRow() {
