@@ -43,6 +43,7 @@ final class InsideEdgesTest {
         shutLocksAnOpenLatch();
         shutWhenTheLatchIsDueToLock();
         shutMakesOutsideQuiet();
+        shutSeesNoMoreCards();
         CHECK.end();
     }
 
@@ -568,5 +569,15 @@ final class InsideEdgesTest {
             h.look("the inner card is seen anew", 42);
             h.outside("nothing is left outside", 0, 1);
         }
+    }
+
+    private static void shutSeesNoMoreCards() {
+        Hand h = withRole(OFFICER);
+        h.press(4);
+        h.house.put(0, 9);
+        h.look("the card outside is not seen by the look that shuts", 62);
+        h.outside("shut", 0, 0);
+        h.look("nor by a later one");
+        h.outside("shut", 0, 0);
     }
 }
